@@ -1,0 +1,96 @@
+import java.util.function.IntBinaryOperator;
+
+/** What every test of the project needs: to compare answers, to load rows, and to end with the right code. */
+final class Check {
+    private static int wrong = 0;
+    private static int compared = 0;
+
+    private Check() {
+    }
+
+    static void due(String call, long got, long want) {
+        compared++;
+        if (got != want) {
+            wrong++;
+            if (wrong <= 50) {
+                System.out.println(call + " answered " + got + ", due is " + want);
+            }
+        }
+    }
+
+    /** The row of x becomes just these bytes. */
+    static TabledFrames load(TabledFrames x, byte[] bytes) {
+        x.feed(0, 0);
+        int i = 0;
+        for (; i + 8 <= bytes.length; i += 8) {
+            long v = 0;
+            for (int k = 0; k < 8; k++) {
+                v = v << 8 | bytes[i + k] & 255;
+            }
+            x.feed(v, 8);
+        }
+        for (; i < bytes.length; i++) {
+            x.feed(bytes[i], 1);
+        }
+        return x;
+    }
+
+    static TabledFrames with(byte[] bytes) {
+        return load(new TabledFrames(), bytes);
+    }
+
+    /** A new object opens the bytes: n of them come out, and place() is -1. */
+    static TabledFrames fine(String what, byte[] bytes, int n) {
+        TabledFrames x = with(bytes);
+        due(what + ": open", x.open(Long.MAX_VALUE), n);
+        due(what + ": place", x.place(), -1);
+        return x;
+    }
+
+    static TabledFrames fine(String what, byte[] bytes, byte[] want) {
+        TabledFrames x = fine(what, bytes, want.length);
+        cameOut(what, x, want);
+        return x;
+    }
+
+    static void cameOut(String what, TabledFrames x, byte[] want) {
+        for (int i = 0; i < want.length; i++) {
+            due(what + ": out(" + i + ")", x.out(i), want[i] & 255);
+        }
+        due(what + ": out(" + want.length + ")", x.out(want.length), -2);
+    }
+
+    /** A new object refuses to open the bytes, by this fault at this place. */
+    static TabledFrames fault(String what, byte[] bytes, int fault, int place) {
+        return fault(what, with(bytes), Long.MAX_VALUE, fault, place);
+    }
+
+    static TabledFrames fault(String what, TabledFrames x, long span, int fault, int place) {
+        due(what + ": open", x.open(span), -10 - fault);
+        due(what + ": place", x.place(), place);
+        return x;
+    }
+
+    static void told(String what, TabledFrames x, int from, int... want) {
+        for (int i = 0; i < want.length; i++) {
+            due(what + ": told(" + (from + i) + ")", x.told(from + i), want[i]);
+        }
+    }
+
+    static void sequence(String what, TabledFrames x, int i, int... want) {
+        each(what + ": sequence(" + i + ", ", want, (k, none) -> x.sequence(i, k));
+    }
+
+    private static void each(String what, int[] want, IntBinaryOperator call) {
+        for (int k = 0; k < want.length; k++) {
+            due(what + k + ")", call.applyAsInt(k, 0), want[k]);
+        }
+    }
+
+    static void end() {
+        System.out.println(wrong == 0 ? compared + " answers are as due" : wrong + " of " + compared + " answers are not as due");
+        if (wrong != 0) {
+            System.exit(1);
+        }
+    }
+}
