@@ -1,0 +1,174 @@
+import java.util.Random;
+
+/** Promise 13 by section 6: every byte as the model has it, ranges, refusals. */
+public final class PackTest {
+    private PackTest() {
+    }
+
+    public static void main(String[] args) {
+        refusals();
+        small();
+        sizes();
+        compareMany();
+        deepCode();
+        whatItLeaves();
+        Check.end();
+    }
+
+    private static void refusals() {
+        TabledFrames x = Check.with(Make.text("abcdefgh"));
+        x.swap();
+        Check.load(x, Make.text("abcdefgh"));
+        for (int[] c : new int[][] {{-1, 0}, {3, 0}, {0, -1}, {0, 8}, {2, Integer.MAX_VALUE}, {Integer.MIN_VALUE, 1}}) {
+            Check.due("pack(" + c[0] + ", " + c[1] + ")", x.pack(c[0], c[1]), -2);
+        }
+        for (int marks = 4; marks < 8; marks++) {
+            Check.due("no dictionary", x.pack(1, marks), -3);
+        }
+        Check.cameOut("nothing changed", x, Make.text("abcdefgh"));
+        x.fill(5993, 1, 0);
+        Check.due("6001", x.size(), 6001);
+        Check.due("no room", x.pack(0, 0), -4);
+        Check.due("no dictionary first", x.pack(0, 4), -3);
+        Check.due("outside first", x.pack(3, 4), -2);
+        Check.cameOut("nothing changed", x, Make.text("abcdefgh"));
+        x.cut(6000);
+        Check.due("6000", x.pack(0, 0), 6 + 9 + 6000);
+    }
+
+    private static void is(String what, byte[] row, int level, int marks, byte[] want) {
+        TabledFrames x = Check.with(row);
+        Check.due(what + ": pack", x.pack(level, marks), want.length);
+        Check.cameOut(what, x, want);
+    }
+
+    private static void small() {
+        for (int level = 0; level < 3; level++) {
+            is("nothing", new byte[0], level, 0, Make.join(Make.head(0, 0), Make.block(true, 0, 0)));
+            is("nothing, one", new byte[0], level, 2, Make.join(Make.head(32, 0), Make.block(true, 0, 0)));
+            is("nothing, a sum", new byte[0], level, 1, Make.join(Make.head(4, 0), Make.block(true, 0, 0), Make.number(0x51D8E999L, 4)));
+            is("abc", Make.text("abc"), level, 3, Make.join(Make.head(36, 3), Make.block(true, 0, 3, Make.text("abc")), Make.number(0xAD770999L, 4)));
+        }
+        is("a, plain", Make.text("a"), 0, 0, Make.join(Make.head(0, 0), Make.block(true, 0, 1, Make.text("a"))));
+        is("a, one byte", Make.text("a"), 1, 0, Make.join(Make.head(0, 0), Make.block(true, 1, 1, Make.text("a"))));
+        is("2049 of a", Make.same('a', 2049), 2, 0, Make.join(Make.head(0, 16), Make.block(false, 1, 2048, Make.text("a")), Make.block(true, 1, 1, Make.text("a"))));
+        byte[] row = Make.join(Make.text("0123456789"), Make.text("0123456789"), Make.text("0123456789"));
+        byte[] packed = Make.join(Make.bytes(10 << 3), Make.text("0123456789"), Make.bytes(1, 0),
+            Model.sequenceRow(new States[] {States.byDefault(0), States.byDefault(1), States.byDefault(2)}, java.util.List.of(new int[] {10, 20, 13})));
+        is("a copy that runs into itself", row, 1, 2, Make.join(Make.head(32, 30), Make.packed(true, packed)));
+    }
+
+    private static void sizes() {
+        for (int n : new int[] {255, 256, 257, 1023, 1024, 1025, 2047, 2048, 2049, 4095, 4096, 4097, 5999, 6000}) {
+            for (int level = 0; level < 3; level++) {
+                for (int marks = 0; marks < 4; marks++) {
+                    byte[] row = new byte[n];
+                    new Random(n).nextBytes(row);
+                    compare("random " + n, row, null, null, level, marks);
+                }
+            }
+        }
+    }
+
+    private static void compare(String what, byte[] row, TabledFrames with, Model.Kept kept, int level, int marks) {
+        TabledFrames x = with == null ? new TabledFrames() : with;
+        Check.load(x, row);
+        byte[] want = Model.pack(row, kept, level, marks);
+        Check.due(what + ", " + level + ", " + marks + ": pack", x.pack(level, marks), want.length);
+        Check.cameOut(what, x, want);
+        x.swap();
+        Check.due(what + ", " + level + ", " + marks + ": open", x.open(8192), row.length);
+        Check.cameOut(what + " opened", x, row);
+    }
+
+    private static void compareMany() {
+        Random random = new Random(20);
+        byte[] content = new byte[2000];
+        for (int i = 0; i < content.length; i++) {
+            content[i] = (byte) (random.nextInt(40) + (i < 1000 ? 32 : 100));
+        }
+        TabledFrames plain = Check.with(content);
+        Check.due("a plain dictionary", plain.keep(), 0);
+        Model.Kept plainKept = new Model.Kept(0, content, new int[] {1, 4, 8});
+        int[] numbers = {5, 255, 256, 65535, 65536, -2};
+        for (int turn = 0; turn < 240; turn++) {
+            byte[] row = row(random, content);
+            int level = turn % 3;
+            compare("row " + turn, row, null, null, level, turn / 3 % 4);
+            compare("row " + turn + " with content", row, plain, plainKept, level, 4 | turn / 3 % 4);
+            compare("row " + turn + " without, though it is kept", row, plain, null, level, turn / 3 % 4);
+            int number = numbers[turn % numbers.length];
+            byte[] dictionary = DictionaryTest.dictionary(number, new int[] {2, 7, 300}, content);
+            TabledFrames tabled = Check.with(dictionary);
+            Check.due("a dictionary with tables", tabled.keep(), number);
+            Model.Kept kept = new Model.Kept(number & 0xFFFFFFFFL, content, new int[] {2, 7, 300});
+            compare("row " + turn + " with tables", row, tabled, kept, level, 4 | turn / 3 % 4);
+        }
+    }
+
+    /** Rows of many kinds: few or many letters, short and long copies, runs, parts of the content. */
+    static byte[] row(Random random, byte[] content) {
+        int n = random.nextInt(6) == 0 ? random.nextInt(6001) : random.nextInt(1500);
+        int letters = 2 + random.nextInt(random.nextBoolean() ? 20 : 126);
+        int longest = 1 << (2 + random.nextInt(10));
+        int often = 1 + random.nextInt(20);
+        boolean high = random.nextInt(4) == 0;
+        boolean peaked = random.nextBoolean();
+        byte[] row = new byte[n];
+        for (int i = 0; i < n; ) {
+            int what = random.nextInt(2 * often);
+            int length = Math.min(n - i, 3 + random.nextInt(longest));
+            if (what == 0 && i > 0) {
+                int offset = 1 + random.nextInt(i);
+                for (int k = 0; k < length; k++, i++) {
+                    row[i] = row[i - offset];
+                }
+            } else if (what == 1) {
+                int from = random.nextInt(content.length);
+                for (int k = 0; k < length && from + k < content.length; k++, i++) {
+                    row[i] = content[from + k];
+                }
+            } else {
+                int letter = random.nextInt(letters);
+                row[i++] = (byte) ((peaked ? random.nextInt(letter + 1) : letter) + (high ? 90 : 0));
+            }
+        }
+        return row;
+    }
+
+    /** Letters as often as Fibonacci's numbers make words deeper than 11, so their numbers are halved. */
+    private static void deepCode() {
+        int[] often = {1, 1, 2, 3, 5, 8, 13, 21, 34, 55, 89, 144, 233, 377};
+        for (int kinds = 11; kinds <= often.length; kinds++) {
+            StringBuilder text = new StringBuilder();
+            for (int s = 0; s < kinds; s++) {
+                text.append(String.valueOf((char) (40 + s * 5)).repeat(often[s]));
+            }
+            byte[] row = Make.text(text.toString());
+            Random random = new Random(kinds);
+            for (int i = row.length - 1; i > 0; i--) {
+                int k = random.nextInt(i + 1);
+                byte b = row[i];
+                row[i] = row[k];
+                row[k] = b;
+            }
+            compare("deep " + kinds, row, null, null, 2, 3);
+        }
+    }
+
+    private static void whatItLeaves() {
+        TabledFrames x = Check.with(Make.bytes(1, 2, 3, 4));
+        Check.fault("a fault", x, 0, 2, 0);
+        Check.load(x, Make.text("hello hello hello hello"));
+        Check.due("pack", x.pack(1, 0) > 0 ? 1 : 0, 1);
+        Check.due("the row stays", x.size(), 23);
+        Check.due("its place stays", x.place(), 0);
+        x.swap();
+        Check.due("open", x.open(2000), 23);
+        Check.told("told", x, 0, 1, 1, 1, 6, 1, 23);
+        x.swap();
+        x.pack(0, 0);
+        Check.told("told stays", x, 0, 1, 1, 1, 6, 1, 23);
+        Check.sequence("the sequence stays", x, 0, 6, 17, 9, 6);
+    }
+}
