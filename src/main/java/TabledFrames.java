@@ -291,7 +291,7 @@ public final class TabledFrames {
     }
 
     /** LOG(v), 0 for a v that has none. */
-    private static int log(long v) {
+    private static int logOf(long v) {
         int log = 0;
         for (int n = 1; n < 63; n++) {
             if (v >>> n == 0) {
@@ -485,7 +485,7 @@ public final class TabledFrames {
             if (from >= end || row.get(end - 1) == 0) {
                 return false;
             }
-            left = 8 * (end - 1 - from) + log(row.get(end - 1));
+            left = 8 * (end - 1 - from) + logOf(row.get(end - 1));
             return true;
         }
 
@@ -591,7 +591,7 @@ public final class TabledFrames {
         }
 
         private int takeCount(int left) {
-            int m = log(left + 1) + 1;
+            int m = logOf(left + 1) + 1;
             int few = (1 << m) - 2 - left;
             int v = takeBits(m - 1);
             if (v >= few && takeBits(1) == 1) {
@@ -632,7 +632,7 @@ public final class TabledFrames {
                 int symbol = symbolAt(i);
                 int x = nexts[symbol];
                 nexts[symbol]++;
-                int bits = log - log(x);
+                int bits = log - logOf(x);
                 places[i] = ((x << bits) - size) << 16 | bits << 8 | symbol;
             }
         }
@@ -702,7 +702,7 @@ public final class TabledFrames {
         }
 
         private void writeCount(Row body, int count, int left) {
-            int m = log(left + 1) + 1;
+            int m = logOf(left + 1) + 1;
             int few = (1 << m) - 2 - left;
             int v = count + 1;
             if (v < few) {
@@ -786,11 +786,11 @@ public final class TabledFrames {
             if (back.lacking) {
                 return false;
             }
-            for (count = 0; count < SYMBOLS - 1; ) {
-                weights[count] = table.symbolAt(now);
-                count++;
+            for (int i = 0; i < SYMBOLS - 2; i++) {
+                weights[i] = table.symbolAt(now);
+                count = i + 1;
                 if (table.bitsAt(now) > back.left) {
-                    return count < SYMBOLS - 1 && endWith(table.symbolAt(other));
+                    return endWith(table.symbolAt(other));
                 }
                 int next = table.baseAt(now) + (int) back.take(table.bitsAt(now));
                 now = other;
@@ -813,12 +813,12 @@ public final class TabledFrames {
                 }
                 sum += weights[i] == 0 ? 0 : 1 << (weights[i] - 1);
             }
-            longest = log(sum) + 1;
+            longest = logOf(sum) + 1;
             int lacks = (1 << longest) - sum;
             if (sum == 0 || longest > MOST_WEIGHT || (lacks & (lacks - 1)) != 0) {
                 return false;
             }
-            return endWith(log(lacks) + 1);
+            return endWith(logOf(lacks) + 1);
         }
 
         /** Those by which the letters, all below 128 and two at least, have the shortest words. */
@@ -1062,7 +1062,7 @@ public final class TabledFrames {
             }
             long told = from.number(start, bytes);
             at = start + bytes;
-            int follow = kind == ONE_BYTE ? 1 : 0;
+            int follow;
             if (coded()) {
                 int width = form < 2 ? 10 : form == 2 ? 14 : 18;
                 count = (int) (told >> 4 & ((1L << width) - 1));
@@ -1155,9 +1155,10 @@ public final class TabledFrames {
         private final Row nothing = new Row(0);
         private Row made = nothing;
         private Row content = nothing;
-        private int frameFrom;
+        /** How many had come out when the FRAME began. */
+        int frameFrom;
+        int limit;
         private long span;
-        private int limit;
         private int wanted;
         private int modes;
         private int blockFrom;
@@ -1173,11 +1174,11 @@ public final class TabledFrames {
             }
         }
 
-        void beginFrame(Row newMade, Dictionary dictionary, long newSpan, int newLimit) {
+        void beginFrame(Row newMade, Dictionary dictionary, long newSpan) {
             made = newMade;
             frameFrom = newMade.count;
             span = newSpan;
-            limit = newLimit;
+            limit = (int) Math.min(newSpan, MOST_LIMIT);
             content = dictionary == null ? nothing : dictionary.content;
             for (int kind = 0; kind < KINDS; kind++) {
                 known[kind] = dictionary != null && dictionary.tabled;
@@ -1360,8 +1361,6 @@ public final class TabledFrames {
         private boolean sized;
         private int sizePlace;
         private boolean summed;
-        private int frameFrom;
-        private int limit;
         private int blockFrom;
         private int blockKind;
         private int blockSize;
@@ -1512,10 +1511,8 @@ public final class TabledFrames {
             report.told[Report.FRAMES]++;
             report.told[Report.SPAN] = (int) (span & Integer.MAX_VALUE);
             report.told[Report.TOLD_SIZE] = sized ? (int) (size & Integer.MAX_VALUE) : -1;
-            frameFrom = made.count;
-            limit = (int) Math.min(span, MOST_LIMIT);
             letters.beginFrame(counting);
-            sequences.beginFrame(made, counting, span, limit);
+            sequences.beginFrame(made, counting, span);
         }
 
         private boolean readBlockHead() {
@@ -1528,7 +1525,7 @@ public final class TabledFrames {
             lastBlock = (head & 1) != 0;
             blockKind = head >> 1 & 3;
             blockSize = head >> 3;
-            if (blockKind > PACKED || blockSize > limit) {
+            if (blockKind > PACKED || blockSize > sequences.limit) {
                 return report.fail(6, at);
             }
             at += 3;
@@ -1548,7 +1545,7 @@ public final class TabledFrames {
 
         private boolean readPacked() {
             int end = at + blockSize;
-            if (!letters.readHead(row, at, end, limit) || !letters.readCode(row) || !letters.readBody(row)) {
+            if (!letters.readHead(row, at, end, sequences.limit) || !letters.readCode(row) || !letters.readBody(row)) {
                 return false;
             }
             int start = letters.end;
@@ -1573,7 +1570,7 @@ public final class TabledFrames {
         }
 
         private boolean readEnd() {
-            if (sized && size != made.count - frameFrom) {
+            if (sized && size != made.count - sequences.frameFrom) {
                 return report.fail(8, sizePlace);
             }
             if (!summed) {
@@ -1582,7 +1579,7 @@ public final class TabledFrames {
             if (!there(4)) {
                 return lacks();
             }
-            if ((int) row.number(at, 4) != (int) made.sumFrom(frameFrom)) {
+            if ((int) row.number(at, 4) != (int) made.sumFrom(sequences.frameFrom)) {
                 return report.fail(9, at);
             }
             at += 4;
@@ -1719,7 +1716,7 @@ public final class TabledFrames {
             rememberFirst(remembered, dictionary);
             finder.begin(row, dictionary == null ? null : dictionary.content);
             int from = 0;
-            for (int blocks = 0; blocks == 0 || from < row.count; blocks++) {
+            for (int blocks = 0; blocks == 0 || blocks < MOST && from < row.count; blocks++) {
                 int end = Math.min(from + BLOCK, row.count);
                 boolean tight = level > 0 && end > from;
                 boolean same = tight && row.same(from, end);
@@ -1740,7 +1737,7 @@ public final class TabledFrames {
             made.addNumber(FRAME_MARK, 4);
             made.add(sizeForm << 6 | (one ? 32 : 0) | (marks & 1) << 2 | numberForm);
             if (!one) {
-                made.add(size <= 1024 ? 0 : (log(size - 1) - 9) << 3);
+                made.add(size <= 1024 ? 0 : (logOf(size - 1) - 9) << 3);
             }
             made.addNumber(number, numberForm == 3 ? 4 : numberForm);
             if (one) {
@@ -1939,7 +1936,7 @@ public final class TabledFrames {
 
         private int symbolOf(int kind, int i) {
             if (kind == OFFSETS) {
-                return log(values[i]);
+                return logOf(values[i]);
             }
             int length = kind == LETTERS ? finder.counts[i] : finder.copies[i];
             int[] base = baseOf(kind);

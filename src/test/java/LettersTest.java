@@ -16,6 +16,7 @@ public final class LettersTest {
         codes();
         wrongCodes();
         weightsInTurn();
+        mostWeights();
         oneStream();
         fourStreams();
         theCodeBefore();
@@ -193,6 +194,34 @@ public final class LettersTest {
                 Check.due("bits of " + i, x.bits(i), weights[i] == 0 ? 0 : log);
             }
             Check.due("bits of the last", x.bits(n + 2), log - Integer.numberOfTrailingZeros(lack));
+        }
+    }
+
+    /** 255 WEIGHTS are fine, with one more there are too many; 127 of them are 1, so that the last one is 1 too. */
+    private static void mostWeights() {
+        States table = new States(5, 16, 16);
+        for (int n = 250; n <= 260; n++) {
+            int[] places = new int[n];
+            for (int i = n - 1; i >= 0; i--) {
+                int weight = i < 127 ? 1 : 0;
+                places[i] = i >= n - 2 ? table.first(weight) : table.before(weight, places[i + 2]);
+            }
+            long[] fields = new long[2 * n];
+            for (int i = 0; i < n; i++) {
+                fields[2 * i] = i < 2 ? places[i] : places[i] - table.base[places[i - 2]];
+                fields[2 * i + 1] = i < 2 ? 5 : 1;
+            }
+            byte[] counts = Make.counts(5, 16, 16);
+            byte[] row = Make.reversed(fields);
+            byte[] code = Make.join(Make.bytes(counts.length + row.length), counts, row);
+            byte[] frame = Make.one(Make.coded(2, 1, code, Make.reversedText("0000000")), NONE);
+            if (n > 255) {
+                Check.fault(n + " weights", frame, 11, 12);
+            } else {
+                TabledFrames x = Check.fine(n + " weights", frame, Make.bytes(0));
+                Check.due(n + " weights: bits of the last", x.bits(n), 7);
+                Check.due(n + " weights: bits", x.bits(127), n == 127 ? 7 : 0);
+            }
         }
     }
 
