@@ -18,6 +18,7 @@ public final class DictionaryTest {
         whereItCounts();
         reach();
         whatStays();
+        oneBehindAnother();
         Check.end();
     }
 
@@ -233,5 +234,22 @@ public final class DictionaryTest {
         Check.due("none", x.keep(), 0);
         Check.due("its code stays told", x.bits(1), 1);
         Check.due("keep has no place", x.place(), -1);
+    }
+
+    /** Ten dictionaries one behind another, plain and with tables: just the latest one's content is reached. */
+    private static void oneBehindAnother() {
+        TabledFrames x = new TabledFrames();
+        for (int turn = 0; turn < 10; turn++) {
+            byte[] content = Make.same('A' + turn, 5 + turn);
+            boolean tabled = turn % 3 == 1;
+            Check.load(x, tabled ? dictionary(50 + turn, new int[] {1, 2, 3}, content) : content);
+            Check.due("keep " + turn, x.keep(), tabled ? 50 + turn : 0);
+            byte[] head = tabled ? Make.head(1, 0x38, 50 + turn) : Make.wide();
+            Check.load(x, Make.join(head, Make.packed(true, copyOf(new byte[0], 3 + 5 + turn, 3))));
+            Check.due("open " + turn, x.open(131072), 3);
+            Check.cameOut("open " + turn, x, Make.same('A' + turn, 3));
+            Check.load(x, Make.join(head, Make.packed(true, copyOf(new byte[0], 3 + 6 + turn, 3))));
+            Check.due("too far " + turn, x.open(131072), -28);
+        }
     }
 }

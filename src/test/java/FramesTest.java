@@ -14,6 +14,7 @@ public final class FramesTest {
         blocks();
         tooMany();
         sizesAndSums();
+        manySums();
         everyCut();
         whatStays();
         Check.end();
@@ -38,6 +39,7 @@ public final class FramesTest {
         Check.told("two frames", x, 0, 2, 2, 0, 0, 0, 6, 1, 4, 8, 1024, -1, 0);
         Check.fine("the kind's 16 counts nothing", Make.join(Make.head(16, 0), plainAbc()), ABC);
         Check.fault("the kind's 8", Make.head(8 | 32, 3), 3, 4);
+        Check.fault("the kind's 8 at the end", Make.head(8), 3, 4);
         Check.fault("no kind", Make.head(), 1, 4);
     }
 
@@ -105,6 +107,8 @@ public final class FramesTest {
         x = Check.fine("N4", Make.join(Make.head(128, 0, 3, 0, 0, 0), plainAbc()), ABC);
         Check.told("N4", x, 9, 1024, 3);
         Check.fault("a size above the most", Check.with(Make.head(32, 11)), 10, 4, 5);
+        Check.due("a size that is the most", Check.with(Make.join(Make.head(32, 3), plainAbc())).open(3), 3);
+        Check.due("a size of 0", Check.with(Make.join(Make.head(32, 0), Make.block(true, 0, 0))).open(0), 0);
         Check.fault("a size without a sign", Make.head(32 | 192, 0, 0, 0, 0, 0, 0, 0, 128), 4, 5);
         Check.fault("a size behind a number", Check.with(Make.head(33, 0, 9)), 8, 4, 6);
         Check.fault("a size lacks", Make.head(32), 1, 5);
@@ -168,6 +172,29 @@ public final class FramesTest {
         Check.fine("the sum of nothing", empty, 0);
         sum[3] ^= 1;
         Check.fine("of this frame alone", Make.join(frame, sum, empty, frame, sum), Make.text("abcabc"));
+    }
+
+    /** Frames of many sizes one behind another, each with the sum of its own bytes. */
+    private static void manySums() {
+        for (int first = 0; first < 100; first += 7) {
+            for (int second = 20; second < 120; second += 9) {
+                byte[] a = bytesOf(first);
+                byte[] b = bytesOf(second);
+                Check.fine("sums of " + first + " and " + second, Make.join(summed(a), summed(b), summed(a)), Make.join(a, b, a));
+            }
+        }
+    }
+
+    private static byte[] bytesOf(int n) {
+        byte[] all = new byte[n];
+        for (int i = 0; i < n; i++) {
+            all[i] = (byte) (i * i + n);
+        }
+        return all;
+    }
+
+    private static byte[] summed(byte[] bytes) {
+        return Make.join(Make.head(32 | 4, bytes.length), Make.block(true, 0, bytes.length, bytes), Make.number(RowTest.slowSum(bytes), 4));
     }
 
     /** Every beginning of a good frame lacks bytes. */

@@ -63,6 +63,8 @@ public final class LettersTest {
     private static void heads() {
         TabledFrames x = Check.fault("an empty block", Make.one(), 10, 9);
         Check.told("an empty block", x, 0, 1, 1, 0, 0, 0, 0);
+        Check.fault("a head alone is all that no letters want", Make.one(Make.bytes(0)), 14, 10);
+        Check.fault("the one byte is wanted for no letters too", Make.one(Make.bytes(1)), 10, 9);
         Check.fault("form 1 of one byte", Make.one(Make.bytes(4)), 10, 9);
         Check.fault("form 3 of two", Make.one(Make.bytes(12, 0)), 10, 9);
         int[] bytes = {3, 3, 4, 5};
@@ -309,5 +311,9 @@ public final class LettersTest {
         Check.fault("a wrong mark behind the frame", Make.join(frame, Make.bytes(1, 2, 3, 4)), 2, frame.length);
         x = Check.fine("passed over behind the frame", Make.join(frame, Make.number(407710288L, 4), Make.number(0, 4)), 5);
         Check.due("the code is that of the latest frame", x.bits(0), 1);
+        x.feed(0, 0);
+        x.feed(5, 1);
+        Check.fault("no frame", x, 5, 1, 1);
+        Check.due("no code any more", x.bits(0), -3);
     }
 }

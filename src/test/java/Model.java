@@ -8,6 +8,8 @@ final class Model {
     static final int[] LETTERS_BITS = new int[36];
     static final int[] COPIES_BASE = new int[53];
     static final int[] COPIES_BITS = new int[53];
+    /** How often the words of a code were at first so deep, so that a test can tell that it has come by all. */
+    static final int[] DEPTHS = new int[40];
 
     static {
         int[] lettersBits = {1, 1, 1, 1, 2, 2, 3, 3, 4, 6, 7, 8, 9, 10, 11, 12, 13, 14, 15, 16};
@@ -271,6 +273,7 @@ final class Model {
     private static String[] words(int[] often) {
         int[] numbers = often.clone();
         int[] depths = depths(numbers);
+        DEPTHS[Arrays.stream(depths).max().getAsInt()]++;
         while (Arrays.stream(depths).max().getAsInt() > 11) {
             for (int i = 0; i < numbers.length; i++) {
                 numbers[i] = (numbers[i] + 1) / 2;

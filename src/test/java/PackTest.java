@@ -11,6 +11,7 @@ public final class PackTest {
         sizes();
         compareMany();
         deepCode();
+        oneSymbol();
         whatItLeaves();
         Check.end();
     }
@@ -109,7 +110,7 @@ public final class PackTest {
     /** Rows of many kinds: few or many letters, short and long copies, runs, parts of the content. */
     static byte[] row(Random random, byte[] content) {
         int n = random.nextInt(6) == 0 ? random.nextInt(6001) : random.nextInt(1500);
-        int letters = 2 + random.nextInt(random.nextBoolean() ? 20 : 126);
+        int letters = 2 + random.nextInt(random.nextBoolean() ? 20 : 127);
         int longest = 1 << (2 + random.nextInt(10));
         int often = 1 + random.nextInt(20);
         boolean high = random.nextInt(4) == 0;
@@ -136,24 +137,68 @@ public final class PackTest {
         return row;
     }
 
-    /** Letters as often as Fibonacci's numbers make words deeper than 11, so their numbers are halved. */
+    /** Some letters so often that each joined tree is joined next, among others: words deeper than 11 have their numbers halved. */
     private static void deepCode() {
-        int[] often = {1, 1, 2, 3, 5, 8, 13, 21, 34, 55, 89, 144, 233, 377};
-        for (int kinds = 11; kinds <= often.length; kinds++) {
-            StringBuilder text = new StringBuilder();
-            for (int s = 0; s < kinds; s++) {
-                text.append(String.valueOf((char) (40 + s * 5)).repeat(often[s]));
+        int[] few = {1, 1, 1, 3, 4, 7, 11, 18, 29};
+        for (int turn = 0; turn < 100; turn++) {
+            Random random = new Random(turn);
+            int[] often = new int[128];
+            int chain = 5 + turn % 5;
+            int each = 12 + random.nextInt(40);
+            int others = 1700 / (each + 4);
+            for (int i = 0; i < chain + others; i++) {
+                int s = random.nextInt(128);
+                often[s] = often[s] > 0 ? often[s] : i < chain ? few[i] : each + random.nextInt(8);
             }
-            byte[] row = Make.text(text.toString());
-            Random random = new Random(kinds);
-            for (int i = row.length - 1; i > 0; i--) {
-                int k = random.nextInt(i + 1);
-                byte b = row[i];
-                row[i] = row[k];
-                row[k] = b;
-            }
-            compare("deep " + kinds, row, null, null, 2, 3);
+            compare("deep " + turn, lettersSoOften(often, random), null, null, 2, 3);
         }
+        for (int depth = 9; depth <= 12; depth++) {
+            Check.due("a code as deep as " + depth, Model.DEPTHS[depth] > 0 ? 1 : 0, 1);
+        }
+    }
+
+    /** Letters in an order in which no four of them come twice, so that there are no copies. */
+    private static byte[] lettersSoOften(int[] often, Random random) {
+        StringBuilder row = new StringBuilder();
+        java.util.Set<String> seen = new java.util.HashSet<>();
+        int left = java.util.Arrays.stream(often).sum();
+        for (int tries = 0; left > 0 && tries < 1000000; tries++) {
+            int s = random.nextInt(128);
+            int n = row.length();
+            if (often[s] > random.nextInt(60) && (n < 3 || seen.add(row.substring(n - 3) + (char) s))) {
+                row.append((char) s);
+                often[s]--;
+                left--;
+            }
+        }
+        return Make.text(row.toString());
+    }
+
+    /** Copies without letters between them, and copies by the first remembered alone: kinds of one symbol. */
+    private static void oneSymbol() {
+        byte[] content = new byte[1500];
+        new Random(5).nextBytes(content);
+        TabledFrames x = Check.with(content);
+        Check.due("keep", x.keep(), 0);
+        Model.Kept kept = new Model.Kept(0, content, new int[] {1, 4, 8});
+        Random random = new Random(6);
+        for (int length : new int[] {4, 10, 34, 50}) {
+            byte[] row = new byte[0];
+            for (int i = 0; i < 20 + length % 3; i++) {
+                int from = random.nextInt(content.length - length);
+                row = Make.join(row, java.util.Arrays.copyOfRange(content, from, from + length));
+            }
+            for (int level = 1; level < 3; level++) {
+                compare("copies of " + length, row, x, kept, level, 4);
+            }
+        }
+        byte[] period = java.util.Arrays.copyOfRange(content, 0, 24);
+        byte[] row = period;
+        for (int i = 0; i < 40; i++) {
+            period[11] += 17;
+            row = Make.join(row, period);
+        }
+        compare("one letter a period", row, null, null, 2, 0);
     }
 
     private static void whatItLeaves() {

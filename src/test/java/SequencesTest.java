@@ -317,6 +317,12 @@ public final class SequencesTest {
         Check.fine("default ones before", Make.join(Make.wide(), byDefault, last), Make.text("abcdabcabcdabc"));
         x = Check.fine("passed over behind", Make.join(frame, Make.number(407710288L, 4), Make.number(0, 4)), 14);
         Check.due("the latest frame's table", x.table(0, 0, 0), 4);
+        x.feed(0, 0);
+        x.feed(5, 1);
+        Check.fault("no frame", x, 5, 1, 1);
+        for (int kind = 0; kind < 3; kind++) {
+            Check.due("no table any more", x.table(kind, 0, 0), -3);
+        }
     }
 
     private static void rows() {
