@@ -1246,7 +1246,7 @@ public final class TabledFrames {
         boolean run(Row row, int at, int end) {
             used = 0;
             blockFrom = made.count;
-            if (wanted > 0) {
+            if (!none()) {
                 if (!back.begin(row, at, end)) {
                     return report.fail(17, at);
                 }
@@ -1259,12 +1259,12 @@ public final class TabledFrames {
                         return report.fail(fault, at);
                     }
                 }
-                if (back.left != 0) {
-                    return report.fail(17, at);
-                }
             }
             putLetters(letters.row.count - used);
-            return !tooMany() || report.fail(20, at);
+            if (tooMany()) {
+                return report.fail(20, at);
+            }
+            return none() || back.left == 0 || report.fail(17, at);
         }
 
         /** The FAULT, 0 for none. */

@@ -404,7 +404,7 @@ public final class SequencesTest {
         Check.fault("18 before bits left over", small(50, eight, Make.onlySymbols(1, 2, 4, 0, Make.reversed(15, 4, 0, 9))), 18, row);
         Check.fault("19 before bits left over", small(50, eight, Make.onlySymbols(1, 9, 2, 0, Make.reversed(0, 2, 0, 9))), 19, row);
         Check.fault("20 before bits left over", small(20, eight, Make.onlySymbols(1, 6, 2, 17, Make.reversed(0, 2, 0, 9))), 20, row);
-        Check.fault("bits left over before the letters that are left", small(18, Make.allOf('a', 15), Make.onlySymbols(1, 2, 2, 1, Make.reversed(0, 2, 0, 9))), 17, row);
+        Check.fault("20 of the letters that are left before bits left over", small(18, Make.allOf('a', 15), Make.onlySymbols(1, 2, 2, 1, Make.reversed(0, 2, 0, 9))), 20, row);
         byte[] twice = Make.onlySymbols(2, 25, 7, 0, Make.reversed(0, 7, 61, 6, 127, 7, 0, 6));
         Check.fault("20 of letters before 18", small(191, Make.allOf('a', 189), twice), 20, row);
         Check.fault("18 if the letters are not too many", small(192, Make.allOf('a', 189), twice), 18, row);
