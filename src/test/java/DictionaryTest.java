@@ -196,7 +196,7 @@ public final class DictionaryTest {
     /** An offset that reaches the content is fine till more than the span came out; one that does not, up to the span. */
     private static void reach() {
         TabledFrames x = keeping(Make.join(CONTENT, CONTENT, CONTENT, CONTENT), 0);
-        for (int out = 1000; out <= 1030; out += 5) {
+        for (int out : new int[] {1000, 1015, 1020, 1022, 1023, 1024, 1025, 1026, 1030}) {
             int rest = Math.max(1, out - 1000);
             byte[] before = Make.join(Make.head(0, 0), Make.block(false, 1, out - rest, Make.bytes('x')), Make.block(false, 1, rest - 1, Make.bytes('y')));
             for (int offset = out - 10; offset <= out + 130; offset++) {

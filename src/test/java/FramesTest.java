@@ -77,6 +77,9 @@ public final class FramesTest {
         Check.fault("widest less 1", Check.with(widest), span - 1, 4, 5);
         Check.due("31 bits", Check.fine("2^31", Make.join(Make.head(0, 169), plainAbc()), 3).told(9), 1 << 28);
         Check.fault("no span's byte", Make.head(0), 1, 5);
+        Check.fault("a span at the end", Check.with(Make.head(0, 0)), 1023, 4, 5);
+        Check.fault("a size at the end", Check.with(Make.head(32, 9)), 8, 4, 5);
+        Check.fault("a number at the end", Check.with(Make.head(1, 0, 9)), 1024, 5, 6);
         TabledFrames x = Check.fault("a fault's head is not told", Check.with(widest), 0, 4, 5);
         Check.told("a fault's head is not told", x, 0, 0, 0, 0, 0, 0, 0, 0, 0, 0, 0, 0, 0);
     }

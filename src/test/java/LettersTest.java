@@ -17,6 +17,8 @@ public final class LettersTest {
         wrongCodes();
         weightsInTurn();
         mostWeights();
+        countsOfWeights();
+        longestCode();
         oneStream();
         fourStreams();
         theCodeBefore();
@@ -199,32 +201,88 @@ public final class LettersTest {
         }
     }
 
+    /** A CODE by counts told with l: the symbols of the table are the WEIGHTS, each leads to the one after the next. */
+    private static byte[] codeInTurn(States table, int... weights) {
+        int n = weights.length;
+        int[] places = new int[n];
+        for (int i = n - 1; i >= 0; i--) {
+            places[i] = i >= n - 2 ? table.first(weights[i]) : table.before(weights[i], places[i + 2]);
+        }
+        long[] fields = new long[2 * n];
+        for (int i = 0; i < n; i++) {
+            fields[2 * i] = i < 2 ? places[i] : places[i] - table.base[places[i - 2]];
+            fields[2 * i + 1] = i < 2 ? table.l : table.bits[places[i - 2]];
+        }
+        byte[] counts = Make.counts(table.l, table.counts);
+        byte[] row = Make.reversed(fields);
+        return Make.join(Make.bytes(counts.length + row.length), counts, row);
+    }
+
+    private static byte[] coding(byte[] code, String bits) {
+        return Make.one(Make.coded(2, 1, code, Make.reversedText(bits)), NONE);
+    }
+
     /** 255 WEIGHTS are fine, with one more there are too many; 127 of them are 1, so that the last one is 1 too. */
     private static void mostWeights() {
-        States table = new States(5, 16, 16);
         for (int n = 250; n <= 260; n++) {
-            int[] places = new int[n];
-            for (int i = n - 1; i >= 0; i--) {
-                int weight = i < 127 ? 1 : 0;
-                places[i] = i >= n - 2 ? table.first(weight) : table.before(weight, places[i + 2]);
-            }
-            long[] fields = new long[2 * n];
-            for (int i = 0; i < n; i++) {
-                fields[2 * i] = i < 2 ? places[i] : places[i] - table.base[places[i - 2]];
-                fields[2 * i + 1] = i < 2 ? 5 : 1;
-            }
-            byte[] counts = Make.counts(5, 16, 16);
-            byte[] row = Make.reversed(fields);
-            byte[] code = Make.join(Make.bytes(counts.length + row.length), counts, row);
-            byte[] frame = Make.one(Make.coded(2, 1, code, Make.reversedText("0000000")), NONE);
+            int[] weights = new int[n];
+            Arrays.fill(weights, 0, 127, 1);
+            byte[] frame = coding(codeInTurn(new States(5, 16, 16), weights), "0000000");
             if (n > 255) {
                 Check.fault(n + " weights", frame, 11, 12);
             } else {
                 TabledFrames x = Check.fine(n + " weights", frame, Make.bytes(0));
                 Check.due(n + " weights: bits of the last", x.bits(n), 7);
-                Check.due(n + " weights: bits", x.bits(127), n == 127 ? 7 : 0);
+                Check.due(n + " weights: bits", x.bits(127), 0);
             }
         }
+    }
+
+    /** The greatest l is 6, the greatest symbol 255 (a WEIGHT like that is none, but it may have a COUNT). */
+    private static void countsOfWeights() {
+        int[] weights = {1, 0, 1, 0, 1};
+        Check.fine("l is 5", coding(codeInTurn(new States(5, 16, 16), weights), "00"), Make.bytes(0));
+        Check.fine("l is 6", coding(codeInTurn(new States(6, 32, 32), weights), "00"), Make.bytes(0));
+        Check.fault("l is 7", coding(codeInTurn(new States(7, 64, 64), weights), "00"), 11, 12);
+        for (int greatest = 253; greatest <= 258; greatest++) {
+            int[] counts = new int[greatest + 1];
+            counts[0] = 16;
+            counts[1] = 15;
+            counts[greatest] = 1;
+            byte[] frame = coding(codeInTurn(new States(5, counts), weights), "00");
+            if (greatest > 255) {
+                Check.fault("a count of " + greatest, frame, 11, 12);
+            } else {
+                Check.fine("a count of " + greatest, frame, Make.bytes(0));
+            }
+        }
+        int[] high = new int[13];
+        high[0] = 16;
+        high[1] = 14;
+        high[11] = 1;
+        high[12] = 1;
+        Check.fault("a weight of 12 in turn", coding(codeInTurn(new States(5, high), 12, 0, 1, 0, 1), "00"), 11, 12);
+        Check.fine("a weight of 11 in turn", coding(codeInTurn(new States(5, high), 11, 0, 0, 0, 0), "1"), Make.bytes(5));
+    }
+
+    /** 127 bytes of a CODE are no halves: WEIGHTS of six bits each, 160 and more, whose sum is 192. */
+    private static void longestCode() {
+        boolean found = false;
+        for (int more = 0; more < 10; more++) {
+            int ones = 128 + 2 * more;
+            int[] weights = new int[160 + more];
+            Arrays.fill(weights, 0, ones, 1);
+            Arrays.fill(weights, ones, weights.length, 2);
+            byte[] code = codeInTurn(new States(6, 62, 1, 1), weights);
+            if (code.length <= 128) {
+                found |= code.length == 128;
+                TabledFrames x = Check.fine("a code of " + (code.length - 1), coding(code, "00000000"), Make.bytes(0));
+                Check.due("bits of a 1", x.bits(ones - 1), 8);
+                Check.due("bits of a 2", x.bits(ones), 7);
+                Check.due("bits of the last", x.bits(weights.length), 2);
+            }
+        }
+        Check.due("one has 127 bytes", found ? 1 : 0, 1);
     }
 
     private static void wrongStream(String what, int size, byte[] stream) {

@@ -10,6 +10,10 @@ final class Model {
     static final int[] COPIES_BITS = new int[53];
     /** How often the words of a code were at first so deep, so that a test can tell that it has come by all. */
     static final int[] DEPTHS = new int[40];
+    /** Of the latest block that was tried: its bytes when packed. */
+    static int lastBody;
+    /** How often a CODE and its STREAMS had as many bytes as there were letters. */
+    static int justAsManyCoded;
 
     static {
         int[] lettersBits = {1, 1, 1, 1, 2, 2, 3, 3, 4, 6, 7, 8, 9, 10, 11, 12, 13, 14, 15, 16};
@@ -126,6 +130,7 @@ final class Model {
         }
         int[] tried = remembered.clone();
         byte[] packed = packed(all, from, end, level, tried);
+        lastBody = packed.length;
         if (packed.length >= plain.length) {
             return Make.block(last, 0, plain.length, plain);
         }
@@ -239,6 +244,7 @@ final class Model {
         }
         boolean single = n < 256;
         byte[] follow = single ? Make.join(code, stream(letters, words)) : Make.join(code, four(letters, words));
+        justAsManyCoded += follow.length == n ? 1 : 0;
         if (follow.length >= n) {
             return null;
         }

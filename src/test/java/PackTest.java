@@ -12,6 +12,9 @@ public final class PackTest {
         compareMany();
         deepCode();
         oneSymbol();
+        howManyLetters();
+        howManySequences();
+        justAsMany();
         whatItLeaves();
         Check.end();
     }
@@ -199,6 +202,78 @@ public final class PackTest {
             row = Make.join(row, period);
         }
         compare("one letter a period", row, null, null, 2, 0);
+    }
+
+    /** Letters without copies, as many as forms and kinds part at. */
+    private static void howManyLetters() {
+        Random random = new Random(9);
+        for (int n : new int[] {30, 31, 32, 33, 34, 254, 255, 256, 257, 1022, 1023, 1024, 1025, 2047, 2048}) {
+            for (int kinds = 4; kinds <= 40; kinds += 12) {
+                int[] often = new int[128];
+                for (int i = 0; i < n; i++) {
+                    often[(i % kinds + random.nextInt(2)) * 3 % 128]++;
+                }
+                byte[] row = lettersSoOften(often, random);
+                for (int level = 1; level < 3; level++) {
+                    compare(row.length + " letters", row, null, null, level, 2);
+                }
+                byte[] high = row.clone();
+                high[0] = (byte) 128;
+                compare("the first is 128", high, null, null, 2, 2);
+                high[0] = 127;
+                compare("the first is 127", high, null, null, 2, 2);
+                high = row.clone();
+                high[row.length - 1] = (byte) 255;
+                compare("the last is 255", high, null, null, 2, 2);
+            }
+        }
+    }
+
+    /** Parts of the content, with nothing or always the same letter between: as many as tables and heads part at. */
+    private static void howManySequences() {
+        byte[] content = new byte[1800];
+        new Random(15).nextBytes(content);
+        TabledFrames x = Check.with(content);
+        Check.due("keep", x.keep(), 0);
+        Model.Kept kept = new Model.Kept(0, content, new int[] {1, 4, 8});
+        Random random = new Random(16);
+        for (int n : new int[] {1, 2, 6, 7, 8, 9, 30, 31, 32, 33, 63, 64, 126, 127, 128, 129, 130, 250, 340}) {
+            byte[] row = new byte[0];
+            byte[] lettered = new byte[0];
+            for (int i = 0; i < n; i++) {
+                int from = random.nextInt(content.length - 12);
+                byte[] part = java.util.Arrays.copyOfRange(content, from, from + 5 + (n < 200 ? random.nextInt(3) : 0));
+                row = Make.join(row, part);
+                lettered = Make.join(lettered, part, Make.bytes('z'));
+            }
+            for (int level = 1; level < 3; level++) {
+                compare(n + " copies", row, x, kept, level, 4);
+                compare(n + " copies and letters", lettered, x, kept, level, 4);
+            }
+        }
+    }
+
+    /** Small rows of all sorts, among them those that have just as many bytes when they are packed. */
+    private static void justAsMany() {
+        Random random = new Random(17);
+        int[] seen = new int[3];
+        for (int turn = 0; turn < 4000; turn++) {
+            int n = 8 + random.nextInt(turn % 2 == 0 ? 20 : 100);
+            int kinds = 2 + random.nextInt(90);
+            byte[] row = new byte[n];
+            for (int i = 0; i < n; i++) {
+                row[i] = (byte) random.nextInt(kinds);
+            }
+            int again = random.nextInt(Math.min(n, 10));
+            row = Make.join(row, Make.first(row, again));
+            compare("small " + turn, row, null, null, 2, 2);
+            int packed = Model.lastBody;
+            seen[packed < row.length ? 0 : packed == row.length ? 1 : 2]++;
+        }
+        for (int i = 0; i < 3; i++) {
+            Check.due("fewer, as many, more", seen[i] > 0 ? 1 : 0, 1);
+        }
+        Check.due("a code that has just as many as its letters", Model.justAsManyCoded > 0 ? 1 : 0, 1);
     }
 
     private static void whatItLeaves() {

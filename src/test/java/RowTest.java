@@ -120,6 +120,15 @@ public final class RowTest {
         Check.due("swap", x.swap(), 3);
         row("swapped back", x, 1, 2, 3);
         Check.cameOut("swapped back", x, Make.bytes(1, 9, 3));
+        Check.load(x, Make.text("abcd"));
+        x.swap();
+        Check.load(x, Make.text("abcd"));
+        x.cut(3);
+        Check.due("a cut row ends", x.differ(), 3);
+        x.swap();
+        Check.due("what came out ends where it was cut", x.differ(), 3);
+        Check.load(x, Make.bytes(1, 9, 3));
+        x.swap();
         x.cut(0);
         Check.due("set does not touch what came out", x.out(1), 9);
     }

@@ -34,7 +34,7 @@ final class States {
                 } while (p >= end);
             }
         }
-        int[] seen = new int[256];
+        int[] seen = new int[counts.length];
         for (int i = 0; i < size; i++) {
             int x = Math.abs(counts[symbol[i]]) + seen[symbol[i]]++;
             bits[i] = l - Model.log(x);
