@@ -19,6 +19,8 @@ public final class DictionaryTest {
         reach();
         whatStays();
         oneBehindAnother();
+        wrongBetween();
+        beforeEachFrame();
         Check.end();
     }
 
@@ -234,6 +236,45 @@ public final class DictionaryTest {
         Check.due("none", x.keep(), 0);
         Check.due("its code stays told", x.bits(1), 1);
         Check.due("keep has no place", x.place(), -1);
+    }
+
+    /** A wrong one touches neither the kept one nor what the latest open() tells, however often it comes. */
+    private static void wrongBetween() {
+        TabledFrames x = new TabledFrames();
+        byte[] wrong = dictionary(88, new int[] {1, 2, 99}, CONTENT);
+        for (int turn = 0; turn < 8; turn++) {
+            int first = 60 + turn;
+            Check.load(x, dictionary(first, new int[] {3, 7, 30}, CONTENT));
+            Check.due("keep", x.keep(), first);
+            Check.load(x, Make.join(Make.head(1, 0x38, first), Make.block(true, 0, 0)));
+            Check.due("open", x.open(131072), 0);
+            Check.load(x, Make.text("another content"));
+            Check.due("keep another", x.keep(), 0);
+            for (int again = 0; again <= turn % 3; again++) {
+                Check.load(x, wrong);
+                Check.due("a wrong one", x.keep(), -31);
+            }
+            new States(6, LETTERS).compare("the latest open()'s letters", x, 0);
+            Check.due("the latest open()'s code", x.bits(4), 4);
+            Check.load(x, Make.one(copyOf(new byte[0], 3 + 15, 7)));
+            Check.due("the kept one", x.open(131072), 7);
+            Check.cameOut("the kept one", x, Make.text("another"));
+        }
+    }
+
+    /** The content stands before each frame, not before the first alone. */
+    private static void beforeEachFrame() {
+        TabledFrames x = keeping(CONTENT, 0);
+        byte[] one = Make.join(Make.wide(), Make.packed(true, copyOf(Make.text("A"), 3 + 31, 5)));
+        byte[] two = Make.join(Make.wide(), Make.packed(true, copyOf(Make.text("B"), 3 + 20, 5)));
+        Check.load(x, Make.join(one, two, one));
+        Check.due("open", x.open(131072), 18);
+        Check.cameOut("before each frame", x, Make.text("Athe cB thatAthe c"));
+        x = keeping(Make.bytes('q'), 0);
+        Check.due("one byte is a dictionary", x.pack(0, 4) > 0 ? 1 : 0, 1);
+        x.cut(0);
+        Check.due("none", x.keep(), 0);
+        Check.due("none is kept", x.pack(0, 4), -3);
     }
 
     /** Ten dictionaries one behind another, plain and with tables: just the latest one's content is reached. */

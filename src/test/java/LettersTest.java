@@ -136,6 +136,8 @@ public final class LettersTest {
         byte[] counts = Make.counts(5, 16, 16);
         wrongCode("no row", Make.join(Make.bytes(counts.length), counts, Make.bytes(1)));
         wrongCode("no mark", Make.join(Make.bytes(counts.length + 2), counts, Make.bytes(255, 0), Make.bytes(1)));
+        byte[] four = Make.counts(5, 0, 31, -1);
+        wrongCode("a row of bytes 0", Make.join(Make.bytes(four.length + 3), four, Make.bytes(0, 0, 0), Make.bytes(1)));
         wrongCode("nine bits", Make.join(Make.bytes(counts.length + 2), counts, Make.reversed(0, 9), Make.bytes(1)));
         byte[] all = Make.counts(5, 0, 32);
         wrongCode("weights without end", Make.join(Make.bytes(all.length + 2), all, Make.reversed(0, 10), Make.bytes(1)));
@@ -300,6 +302,10 @@ public final class LettersTest {
         wrongStream("half a word", 2, Make.reversedText("1000"));
         wrongStream("no letters, but bits", 0, Make.bytes(2));
         wrongStream("no letters, no byte", 0, new byte[0]);
+        byte[] halves = Make.bytes(128, 0x10);
+        Check.fine("eight of a bit", Make.one(Make.coded(2, 8, halves, Make.bytes(0x65, 1)), NONE), Make.bytes(0, 1, 1, 0, 0, 1, 0, 1));
+        Check.fault("eight of a bit, but no mark", Make.one(Make.coded(2, 8, halves, Make.bytes(0x65, 0)), NONE), 13, 14);
+        Check.fault("eight of a bit, but no mark", Make.one(Make.coded(2, 16, halves, Make.bytes(0x65, 0)), NONE), 13, 14);
         wrongStream("bytes left over", 1, Make.join(Make.bytes(0), words(0)));
         int[] many = new int[1000];
         byte[] letters = new byte[1000];
@@ -361,6 +367,10 @@ public final class LettersTest {
         byte[] frame = Make.join(Make.wide(), first, before);
         x = Check.fault("none in this frame", Make.join(frame, Make.wide(), before), 12, frame.length + 9);
         Check.due("none in the latest frame", x.bits(0), -3);
+        x = Check.fine("another code", Make.join(Make.wide(), first, Make.packed(true, Make.coded(2, 2, Make.bytes(128, 0x10), Make.reversedText("01")), NONE)), Make.bytes(5, 2, 0, 1));
+        for (int i = 0; i < 6; i++) {
+            Check.due("bits in another code", x.bits(i), i < 2 ? 1 : 0);
+        }
         Check.fine("four by the code before", Make.join(Make.wide(), first, Make.packed(true,
             Make.codedFour(3, 4, streams(words(0), words(1), words(2), words(4))), NONE)), Make.bytes(5, 2, 0, 1, 2, 4));
         int at = 6 + first.length + 3;

@@ -330,6 +330,13 @@ public final class SequencesTest {
         byte[] head = Make.bytes(1, 0x54, 4, 2, 0);
         Check.fault("no row", abcd(head), 17, row);
         Check.fault("no mark", abcd(head, Make.bytes(255, 0)), 17, row);
+        byte[] eight = Make.bytes(1, 0x54, 4, 2, 38);
+        Check.fine("five bits", abcd(eight, Make.reversed(3, 2, 1, 3)), 4 + 52);
+        byte[] seven = Make.bytes(1, 0x54, 4, 2, 42);
+        Check.fault("eight bits, but no mark", abcd(Make.bytes(1, 0x54, 4, 2, 42), Make.bytes(0xE0, 0)), 17, row);
+        Check.fault("seven bits, but no mark", abcd(seven, Make.bytes(0)), 17, row);
+        byte[] wide = Make.join(Make.wide(), Make.packed(true, Make.plain(Make.same('a', 70)), Make.bytes(1, 0x54, 25, 2, 0), Make.bytes(0x86, 0)));
+        Check.fault("two and six bits, but no mark", wide, 17, 9 + 3 + 70 + 5);
         TabledFrames x = Check.fault("a bit lacks", abcd(head, Make.reversed(1, 1)), 17, row);
         Check.told("a bit lacks", x, 0, 1, 1, 0, 4, 0, 0, 1, 4, 8);
         Check.due("a bit lacks", x.sequence(0, 0), -2);
@@ -379,6 +386,8 @@ public final class SequencesTest {
         byte[] two = Make.onlySymbols(1, 2, 2, 1, Make.reversed(0, 2));
         TabledFrames x = Check.fault("19", small(99, Make.plain(ABCD), Make.onlySymbols(1, 5, 2, 1, Make.reversed(0, 2))), 19, 6 + 3 + 3 + 4 + 5);
         Check.told("19", x, 4, 0);
+        x = Check.fault("19 of the second", small(99, Make.allOf('a', 8), Make.onlySymbols(2, 5, 2, 1, Make.reversed(0, 2, 0, 2))), 19, row);
+        Check.told("19 of the second", x, 4, 1);
         Check.fine("just the limit", small(44, letters, two), Make.same('a', 44));
         x = Check.fault("at the end", small(43, letters, two), 20, row);
         Check.told("at the end", x, 0, 1, 1, 0, 40, 1, 0, 1, 1, 4);
