@@ -7,6 +7,7 @@ public final class TabledFrames {
     private static final int MOST_TO_PACK = 6000;
     private static final int MOST_NOTED = 2000;
     private static final int MOST_LIMIT = 131072;
+    private static final long LOW_31 = 0x7FFFFFFFL;
     private static final int BLOCK = 2048;
     private static final int LEAST_FOUND = 4;
     private static final int MOST_FOUND = BLOCK / LEAST_FOUND;
@@ -1509,8 +1510,8 @@ public final class TabledFrames {
 
         private void beginFrame() {
             report.told[Report.FRAMES]++;
-            report.told[Report.SPAN] = (int) (span & Integer.MAX_VALUE);
-            report.told[Report.TOLD_SIZE] = sized ? (int) (size & Integer.MAX_VALUE) : -1;
+            report.told[Report.SPAN] = (int) (span & LOW_31);
+            report.told[Report.TOLD_SIZE] = sized ? (int) (size & LOW_31) : -1;
             letters.beginFrame(counting);
             sequences.beginFrame(made, counting, span);
         }
