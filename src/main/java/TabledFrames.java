@@ -1286,13 +1286,11 @@ public final class TabledFrames {
                 return 19;
             }
             putLetters(count);
-            if (tooMany()) {
-                return 20;
-            }
             long offset = offsetOf(remembered, value, count);
             if (!reaches(offset)) {
                 return 18;
             }
+            // 20 behind the LETTERS is 20 behind the COPY too: nothing is told between them.
             putCopy((int) offset, copy);
             if (tooMany()) {
                 return 20;

@@ -17,6 +17,7 @@ public final class DictionaryTest {
         wrong();
         whereItCounts();
         reach();
+        reachBeforeLimit();
         whatStays();
         oneBehindAnother();
         wrongBetween();
@@ -209,6 +210,18 @@ public final class DictionaryTest {
                 boolean fine = offset <= out + 120 && (reaches ? out <= 1024 : offset <= 1024);
                 Check.due(out + " came out, offset " + offset, x.open(1024), fine ? out + 3 : -28);
             }
+        }
+    }
+
+    /** Behind the second's LETTERS 1027 bytes came out, more than the SPAN of 1024, which is the LIMIT: 18 comes before 20. */
+    private static void reachBeforeLimit() {
+        TabledFrames x = keeping(Make.same('c', 1000), 0);
+        int[][] offsets = {{1021, 20}, {1024, 20}, {1025, 18}, {1027, 18}, {1028, 18}, {2027, 18}, {2028, 18}};
+        for (int[] of : offsets) {
+            byte[] row = Make.reversed(0, 10, 0, 9, 0, 8, of[0] + 3 - 1024, 10, 0, 9, 0, 8);
+            Check.load(x, Make.join(Make.head(0, 0), Make.packed(true, Make.allOf('a', 512), Make.onlySymbols(2, 27, 10, 45, row))));
+            Check.fault("offset " + of[0], x, 1024, of[1], 6 + 3 + 4 + 5);
+            Check.told("offset " + of[0], x, 4, 1, 0, 1021, 1, 4);
         }
     }
 

@@ -415,7 +415,18 @@ public final class SequencesTest {
         Check.fault("20 before bits left over", small(20, eight, Make.onlySymbols(1, 6, 2, 17, Make.reversed(0, 2, 0, 9))), 20, row);
         Check.fault("20 of the letters that are left before bits left over", small(18, Make.allOf('a', 15), Make.onlySymbols(1, 2, 2, 1, Make.reversed(0, 2, 0, 9))), 20, row);
         byte[] twice = Make.onlySymbols(2, 25, 7, 0, Make.reversed(0, 7, 61, 6, 127, 7, 0, 6));
-        Check.fault("20 of letters before 18", small(191, Make.allOf('a', 189), twice), 20, row);
+        Check.fault("18 before 20 of letters", small(191, Make.allOf('a', 189), twice), 18, row);
         Check.fault("18 if the letters are not too many", small(192, Make.allOf('a', 189), twice), 18, row);
+        lettersAboveLimit(row);
+    }
+
+    /** 192 bytes came out behind the second's LETTERS, one more than the SPAN, which is the LIMIT. */
+    private static void lettersAboveLimit(int row) {
+        int[][] offsets = {{125, 20}, {190, 20}, {191, 20}, {192, 18}, {193, 18}, {252, 18}};
+        for (int[] of : offsets) {
+            byte[] twice = Make.onlySymbols(2, 25, 7, 0, Make.reversed(0, 7, 61, 6, of[0] + 3 - 128, 7, 0, 6));
+            TabledFrames x = Check.fault("letters above the limit, offset " + of[0], small(191, Make.allOf('a', 189), twice), of[1], row);
+            Check.told("letters above the limit", x, 4, 1, 0, 125, 1, 4);
+        }
     }
 }
