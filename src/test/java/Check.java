@@ -3,7 +3,7 @@ import java.util.function.IntBinaryOperator;
 /** What every test of the project needs: to compare answers, to load rows, and to end with the right code. */
 final class Check {
     private static int wrong = 0;
-    private static int compared = 0;
+    private static long compared = 0;
 
     private Check() {
     }
