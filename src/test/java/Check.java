@@ -1,9 +1,16 @@
+import java.io.IOException;
+import java.nio.file.Files;
+import java.nio.file.Path;
+import java.util.ArrayList;
+import java.util.List;
 import java.util.function.IntBinaryOperator;
 
 /** What every test of the project needs: to compare answers, to load rows, and to end with the right code. */
 final class Check {
     private static int wrong = 0;
     private static long compared = 0;
+    private static final List<String> SENTENCES = new ArrayList<>();
+    private static String sentence = "";
 
     private Check() {
     }
@@ -13,9 +20,45 @@ final class Check {
         if (got != want) {
             wrong++;
             if (wrong <= 50) {
-                System.out.println(call + " answered " + got + ", due is " + want);
+                System.out.println(sentence + call + " answered " + got + ", due is " + want);
             }
         }
+    }
+
+    /** From here on answers are due by this sentence of the document. */
+    static void says(String quoted) {
+        SENTENCES.add(quoted);
+        sentence = "\"" + quoted + "\": ";
+    }
+
+    /** Whether the words that were quoted are the document's, if it is at hand; and those that nothing quotes, if asked. */
+    static void quotes(boolean tellOthers) throws IOException {
+        String path = System.getProperty("doc", "");
+        if (path.isEmpty() || !Files.exists(Path.of(path))) {
+            return;
+        }
+        sentence = "";
+        String doc = plainText(Files.readString(Path.of(path)));
+        boolean[] quoted = new boolean[doc.length()];
+        for (String s : SENTENCES) {
+            String text = plainText(s);
+            int at = doc.indexOf(text);
+            due("the document says " + s, at >= 0 ? 1 : 0, 1);
+            for (int i = 0; at >= 0 && i < text.length(); i++) {
+                quoted[at + i] = true;
+            }
+        }
+        StringBuilder others = new StringBuilder();
+        for (int i = 0; tellOthers && i < quoted.length; i++) {
+            if (!quoted[i]) {
+                others.append(i > 0 && quoted[i - 1] ? "\n" : "").append(doc.charAt(i));
+            }
+        }
+        System.out.print(tellOthers ? "not quoted:\n" + others + "\n" : "");
+    }
+
+    private static String plainText(String s) {
+        return s.replaceAll("\\s+", " ");
     }
 
     /** The row of x becomes just these bytes. */

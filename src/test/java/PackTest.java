@@ -161,7 +161,7 @@ public final class PackTest {
     }
 
     /** Letters in an order in which no four of them come twice, so that there are no copies. */
-    private static byte[] lettersSoOften(int[] often, Random random) {
+    static byte[] lettersSoOften(int[] often, Random random) {
         StringBuilder row = new StringBuilder();
         java.util.Set<String> seen = new java.util.HashSet<>();
         int left = java.util.Arrays.stream(often).sum();
