@@ -22,6 +22,7 @@ final class ToldEdges {
         sizes();
         passedOver();
         ofTheLatest();
+        keepLeavesIt();
         firstTwoThousand();
         noSuchSequence();
         placesOfTables();
@@ -218,6 +219,31 @@ final class ToldEdges {
         Check.due("no table", x.table(0, 0, 0), -3);
     }
 
+    /** Dictionaries that are kept behind an open(), right and wrong, leave what it tells. */
+    private static void keepLeavesIt() {
+        Check.says("in the latest open()");
+        TabledFrames x = Check.with(DictionaryTest.dictionary(9, new int[] {1, 2, 3}, ABCD));
+        Check.due("keep", x.keep(), 9);
+        Check.load(x, Make.join(Make.head(1, 0x38, 9), Make.block(true, 0, 0)));
+        Check.due("open", x.open(131072), 0);
+        byte[] other = Make.join(Make.number(3962610743L, 4), Make.number(5, 4), Make.bytes(128, 0x10), Make.counts(5, 16, 16), Make.counts(6, 32, 32), Make.counts(7, 64, 64),
+            Make.number(1, 4), Make.number(1, 4), Make.number(1, 4), ABCD);
+        for (int turn = 0; turn < 6; turn++) {
+            Check.load(x, turn % 3 == 2 ? Make.first(other, other.length - 4) : other);
+            Check.due("keep", x.keep(), turn % 3 == 2 ? -31 : 5);
+            int[] logs = {6, 5, 5};
+            for (int kind = 0; kind < 3; kind++) {
+                Check.due("l of kind " + kind, x.table(kind, -1, 0), logs[kind]);
+            }
+            Check.due("bits", x.bits(4), 4);
+            Check.told("remembered", x, 6, 1, 2, 3);
+        }
+        x.cut(0);
+        Check.due("keep none", x.keep(), 0);
+        Check.due("bits", x.bits(4), 4);
+        Check.due("l", x.table(0, -1, 0), 6);
+    }
+
     private static byte[] copies(int n) {
         byte[] head = n < 128 ? Make.bytes(n) : Make.bytes(128 + n / 256, n % 256);
         return Make.join(Make.wide(), Make.block(false, 0, 4, ABCD), Make.packed(true, Make.bytes(0), head, Make.bytes(0x54, 0, 0, 0, 1)));
@@ -296,6 +322,15 @@ final class ToldEdges {
         Check.due("the first was told", x.table(0, 0, 0), 4);
         Check.due("the second was not", x.table(1, 0, 0), -3);
         Check.due("the third was not", x.table(2, 0, 0), -3);
+        byte[] wrong = Make.packed(true, Make.plain(ABCD), Make.bytes(1, 0x54, 36));
+        x = Check.fault("a fault behind a block", Make.join(Make.wide(), sequenced(false), wrong), 15, 6 + sequenced(false).length + 3 + 7 + 2);
+        Check.due("the table of the block before is the latest", x.table(0, 0, 0), 4);
+        wrong = Make.packed(true, Make.plain(ABCD), Make.bytes(1, 0x94, 0));
+        x = Check.fault("counts with a fault behind a block", Make.join(Make.wide(), sequenced(false), wrong), 15, 6 + sequenced(false).length + 3 + 7 + 2);
+        Check.due("the table of the block before is the latest", x.table(0, 0, 0), 4);
+        Check.due("the table of the block before is the latest", x.table(0, -1, 0), 0);
+        x = Check.fault("a head with a fault behind a frame", Make.join(whole(), Make.head(8)), 3, whole().length + 4);
+        Check.due("no frame has begun", x.table(0, 0, 0), 4);
     }
 
     private static void orderOfRefusals() {
@@ -344,6 +379,10 @@ final class ToldEdges {
         Check.due("none of it", y.bits(255), 0);
         byte[] coded = Make.one(Make.coded(2, 0, CODE, Make.bytes(1)), Make.bytes(0));
         Check.due("in the frame before", Check.fine("two", Make.join(coded, whole()), 7).bits(0), -3);
+        byte[] first = Make.packed(false, Make.coded(2, 0, CODE, Make.bytes(1)), Make.bytes(0));
+        byte[] wrong = Make.packed(true, Make.coded(2, 0, Make.bytes(128, 0)), Make.bytes(0));
+        x = Check.fault("a code with a fault behind another one", Make.join(Make.wide(), first, wrong), 11, 6 + first.length + 6);
+        Check.due("the one before is the latest", x.bits(4), 4);
         Check.due("a code with a fault", Check.fault("11", Make.one(Make.coded(2, 0, Make.bytes(128, 0)), Make.bytes(0)), 11, 12).bits(0), -3);
         Check.due("a code and wrong streams", Check.fault("13", Make.one(Make.coded(2, 1, CODE, Make.bytes(1)), Make.bytes(0)), 13, 16).bits(0), 1);
     }
