@@ -26,6 +26,7 @@ final class DictionaryEdges {
         contentBeforeEach();
         usedBefore();
         latestBehindIt();
+        oneBehindAnother();
     }
 
     private static byte[] made(long number, byte[] code, byte[] offsets, byte[] copies, byte[] letters, long[] remembered, byte[] content) {
@@ -359,5 +360,28 @@ final class DictionaryEdges {
         Check.load(x, Make.join(Make.head(1, 0, 9), code.clone(), by, Make.head(1, 0, 9), Make.packed(true, Make.coded(3, 2, Make.reversedText("101")), Make.bytes(0))));
         Check.due("in the next frame it is the dictionary's again", x.open(1024), 5);
         Check.cameOut("in the next frame it is the dictionary's again", x, Make.bytes(1, 0, 1, 0, 1));
+    }
+
+    /** Each is as if it were the first: nothing of those before is left. */
+    private static void oneBehindAnother() {
+        Check.says("else all is CONTENT, its number 0.");
+        TabledFrames x = new TabledFrames();
+        for (int turn = 0; turn < 12; turn++) {
+            boolean tabled = turn % 4 < 2;
+            byte[] content = Make.same('A' + turn, 20 - turn);
+            int number = tabled ? 30 + turn : 0;
+            Check.load(x, tabled ? made(number, new long[] {2, 3, 5}, content) : content);
+            Check.due("keep " + turn, x.keep(), number);
+            byte[] head = tabled ? Make.head(1, 0, number) : Make.head(0, 0);
+            Check.load(x, Make.join(head, copy(content.length)));
+            Check.due("open " + turn, x.open(1024), 3);
+            Check.cameOut("open " + turn, x, Make.same('A' + turn, 3));
+            Check.told("open " + turn, x, 7, tabled ? 2 : 1, tabled ? 3 : 4);
+            Check.due("a code", x.bits(0), tabled ? 1 : -3);
+            Check.load(x, Make.join(head, copy(content.length + 1)));
+            Check.due("before the content of " + turn, x.open(1024), -28);
+            x.feed(0, 0);
+            Check.due("pack " + turn, x.pack(0, 4), tabled ? 10 : 9);
+        }
     }
 }

@@ -26,6 +26,7 @@ final class LettersEdges {
         oneStreamOrFour();
         halves();
         halvesInBytes();
+        mostBytesOfACode();
         bytesOfACode();
         inTurn();
         sums();
@@ -187,6 +188,25 @@ final class LettersEdges {
             }
             Check.fault(n + " weights in a byte less", Make.one(coded(2, 0, 1, Make.first(code, code.length - 1)), Make.same(0x11, 70)), 11, 12);
         }
+    }
+
+    /** WEIGHTS of six bits each, so many of 1 and of 2 that their sum is 192; one such CODE has 127 bytes. */
+    private static void mostBytesOfACode() {
+        Check.says("b above 127: b - 127 WEIGHTS");
+        boolean found = false;
+        for (int more = 0; more < 10; more++) {
+            int ones = 128 + 2 * more;
+            int[] weights = new int[160 + more];
+            Arrays.fill(weights, 0, ones, 1);
+            Arrays.fill(weights, ones, weights.length, 2);
+            byte[] code = LettersTest.codeInTurn(new States(6, 62, 1, 1), weights);
+            if (code.length == 128) {
+                found = true;
+                compare("b is 127", code, lengthsOf(listOf(weights)));
+                compare("b is 127, and a byte lacks", Make.first(code, 127), null);
+            }
+        }
+        Check.due("one has 127 bytes", found ? 1 : 0, 1);
     }
 
     /** The WEIGHTS by a row of the two states and bits behind them; null if they have no end. */
@@ -574,6 +594,9 @@ final class LettersEdges {
                 Check.fault("form " + form + ", what follows is cut to " + n, Make.one(Make.first(whole, n)), 10, 9);
             }
             Check.fault("all is there, but no section", Make.one(whole), 14, 9 + whole.length);
+        }
+        for (byte[] head : new byte[][] {Make.bytes(0), Make.bytes(4, 0), Make.bytes(12, 0, 0)}) {
+            Check.fault("the head is all that no letters want", Make.one(head), 14, 9 + head.length);
         }
         for (int n = 0; n < 5; n++) {
             Check.fault("plain ones cut to " + n, Make.one(Make.bytes(5 << 3), new byte[n]), 10, 9);

@@ -204,7 +204,7 @@ public final class LettersTest {
     }
 
     /** A CODE by counts told with l: the symbols of the table are the WEIGHTS, each leads to the one after the next. */
-    private static byte[] codeInTurn(States table, int... weights) {
+    static byte[] codeInTurn(States table, int... weights) {
         int n = weights.length;
         int[] places = new int[n];
         for (int i = n - 1; i >= 0; i--) {

@@ -44,6 +44,7 @@ final class PackEdges {
         tooFewTogether();
         upToTheGreatest();
         firstPlaces();
+        oneBehindAnother();
     }
 
     private static byte[] out(TabledFrames x, int n) {
@@ -875,5 +876,25 @@ final class PackEdges {
             tables[2].first(7) - tables[2].base[before[2]], tables[2].bits[before[2]],
             tables[1].first(3) - tables[1].base[before[1]], tables[1].bits[before[1]], 14 - 8, 3);
         is("two sequences", two, 1, 2, Make.head(32, 31), Make.packed(true, Make.bytes(11 << 3), DIGITS, Make.text("-"), Make.bytes(2, 0), twoBits));
+    }
+
+    /** One object packs many rows, of fewer and of more bytes, letters and sequences: each is as if it were the first. */
+    private static void oneBehindAnother() {
+        Check.says("TO PACK a row,");
+        byte[] content = content(36);
+        TabledFrames x = keeping(content, 0);
+        for (int turn = 0; turn < 60; turn++) {
+            Random random = new Random(turn);
+            byte[] letters = new byte[turn % 4 * 70];
+            int kinds = 2 + random.nextInt(120);
+            for (int i = 0; i < letters.length; i++) {
+                letters[i] = (byte) random.nextInt(kinds);
+            }
+            byte[] row = turn % 5 == 4 ? unlike(turn * 100, turn) : lettered(content, letters);
+            int[] lengths = lengthsSoOften(turn % 7 * 5, 9 - turn % 10, turn % 3, 2);
+            packed("turn " + turn, x, kept(content), row, 1 + turn % 2, 4);
+            packed("turn " + turn + ", copies", x, kept(content), ofLengths(content, lengths), 2, 4);
+            packed("turn " + turn + ", without it", x, null, row, 2, turn % 4);
+        }
     }
 }

@@ -217,6 +217,11 @@ final class ToldEdges {
         Check.told("nothing", x, 0, 0, 0, 0, 0, 0, 0, 0, 0, 0, 0, 0, 0);
         Check.due("no sequence", x.sequence(0, 0), -2);
         Check.due("no table", x.table(0, 0, 0), -3);
+        x = Check.fine("a code", Make.one(Make.coded(2, 0, CODE, Make.bytes(1)), Make.bytes(0)), 0);
+        Check.due("a code", x.bits(0), 1);
+        x.feed(0, 0);
+        Check.due("open", x.open(0), 0);
+        Check.due("no code", x.bits(0), -3);
     }
 
     /** Dictionaries that are kept behind an open(), right and wrong, leave what it tells. */
