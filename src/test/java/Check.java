@@ -31,7 +31,7 @@ final class Check {
         sentence = "\"" + quoted + "\": ";
     }
 
-    /** Whether the words that were quoted are the document's, if it is at hand; and those that nothing quotes, if asked. */
+    /** Tells words that were quoted and are not the document's, if it is at hand; and those that nothing quotes, if asked. */
     static void quotes(boolean tellOthers) throws IOException {
         String path = System.getProperty("doc", "");
         if (path.isEmpty() || !Files.exists(Path.of(path))) {
@@ -43,7 +43,9 @@ final class Check {
         for (String s : SENTENCES) {
             String text = plainText(s);
             int at = doc.indexOf(text);
-            due("the document says " + s, at >= 0 ? 1 : 0, 1);
+            if (at < 0) {
+                System.out.println("the document does not say: " + s);
+            }
             for (int i = 0; at >= 0 && i < text.length(); i++) {
                 quoted[at + i] = true;
             }
